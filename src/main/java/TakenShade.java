@@ -676,7 +676,7 @@ public final class TakenShade {
     private static final class Roll {
         private final int[] years;
         private final int[] order;
-        private int many;
+        int many;
 
         Roll(int most) {
             int room = Math.max(most, 0);
@@ -838,6 +838,7 @@ public final class TakenShade {
 
         void goThrough(int lastYear) {
             begin();
+            // Not by pass(), so that calls stay eight deep from digest() on.
             for (int year = 0; year <= lastYear; year++) {
                 takeAllOf(year);
                 burnAllOf(year);

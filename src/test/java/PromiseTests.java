@@ -132,6 +132,7 @@ public final class PromiseTests {
         due("6 what 2", x.person(0, 2), BAD);
         due("6 what -1", x.person(0, -1), BAD);
         x.type('x');
+        due("6 twin of the next one, that there is not", people("10b").person(0, 1), NONE);
         due("6 with a fault nobody", x.person(0, 0), BAD);
     }
 
@@ -315,6 +316,7 @@ public final class PromiseTests {
         due("15 of twin", x.took(1, 1), 2);
         due("15 no twin", x.took(2, 1), 0);
         due("15 never", x.took(3, 0), 0);
+        due("15 never", x.took(3, 1), 0);
         due("15 no such", x.took(4, 0), BAD);
         due("15 no such", x.took(-1, 0), BAD);
         due("15 what 2", x.took(0, 2), BAD);
@@ -343,6 +345,10 @@ public final class PromiseTests {
         TakenShade first = people("10.");
         first.picture(0, 0, 1, 0);
         due("16 year 0", first.unseen(0), 0);
+        due("16 person 0", first.unseen(1), 0);
+        TakenShade eighth = people("10.;10.;10.;10.;10.;10.;10.;10.");
+        eighth.picture(1, 7, 1, 0);
+        due("16 person 7", eighth.unseen(1), 7);
         TakenShade last = people("10.");
         last.picture(29, 0, 1, 0);
         due("16 year 29", last.unseen(0), 29);
@@ -371,6 +377,9 @@ public final class PromiseTests {
         due("17 a twin", x.whole(3, 1, 30, NONE, 0), 15);
         due("17 not yet taken", x.whole(1, 0, 40, NONE, 0), 3);
         due("17 none yet", x.whole(1, 1, 22, NONE, 0), 0);
+        due("17 as solid as 0", x.whole(3, 0, 0, 3, 0), 0);
+        due("17 drawer 3 is spared", x.whole(3, 1, 17, 3, 0), 8);
+        due("17 nothing else lost", x.whole(3, 1, 17, 3, 1), 0);
         due("17 year 30", x.whole(30, 0, 0, NONE, 0), BAD);
         due("17 year -1", x.whole(-1, 0, 0, NONE, 0), BAD);
         due("17 person 2", x.whole(0, 2, 0, NONE, 0), BAD);
@@ -393,6 +402,13 @@ public final class PromiseTests {
         due("17 two with less loss", x.whole(0, 0, 51, NONE, 0), 6);
         x.burn(0, 1);
         due("17 burnt already", x.whole(0, 0, 51, NONE, 0), 4);
+        TakenShade gone = people("99.");
+        for (int i = 0; i < 12; i++) {
+            gone.picture(0, 0, 9, 0);
+        }
+        due("17 one missing", gone.whole(0, 0, 1, NONE, 0), 1);
+        due("17 all missing", gone.whole(0, 0, 99, NONE, 0), 2047);
+        due("17 all lost", gone.whole(0, 0, 99, NONE, 1), 99);
     }
 
     // Promise 18
@@ -409,6 +425,8 @@ public final class PromiseTests {
         due("18 year -1", x.feast(-1, 1), BAD);
         due("18 size 0", x.feast(0, 0), BAD);
         due("18 size 10", x.feast(0, 10), BAD);
+        x.faint(98);
+        due("18 one more than faint", x.feast(1, 1), 1);
         due("18 nobody", new TakenShade().feast(0, 1), 0);
     }
 
@@ -540,11 +558,15 @@ public final class PromiseTests {
         due("23 eight", x.count(4), 8);
         TakenShade y = people("50.");
         y.picture(3, 0, 5, 0);
-        y.sheet(2, 1, 3);
+        y.sheet(2, 1, 6);
         y.lay(2, 1, 0, 3);
         y.lay(2, 1, 2, 45);
-        due("23 one", y.read(2), 1);
+        y.lay(2, 1, 4, 8);
+        due("23 one, then no such person", y.read(2), 1);
         due("23 as seen", y.sizes(0), 16);
+        y.lay(2, 1, 1, 1);
+        due("23 of another", y.read(2), 1);
+        due("23 who is not there", y.sizes(0), 0);
     }
 
     // Promise 24
@@ -597,6 +619,7 @@ public final class PromiseTests {
     private static void town() {
         TakenShade x = new TakenShade();
         due("26 at once", x.town(1, 10, 99), 0);
+        due("26 no tourists", x.town(1, 0, 0), NONE);
         due("26 one left", x.town(2, 10, 0), 1);
         due("26 cut", x.town(1, 9, 0), NONE);
         due("26 in the last year", x.town(100, 10, 0), 99);
@@ -639,6 +662,14 @@ public final class PromiseTests {
         due("28 two of ten", x.shots(1, 29, 10, 0, 9, 1), 1L << 40);
         // Two at least of ten: 16 to the 10th, less 15 to the 10th, less 10 times 15 to the 9th.
         due("28 above", x.shots(1, 29, 10, 0, 9, 0), 1099511627776L - 576650390625L - 384433593750L);
+        due("28 of one", x.shots(4, 3, 1, 1, 9, 0), 1);
+        due("28 one of one", x.shots(4, 2, 1, 0, 9, 0), 0);
+        x.faint(12);
+        due("28 one of one, above", x.shots(4, 2, 1, 0, 9, 0), 1);
+        due("28 one of one, below", x.shots(4, 2, 1, 0, 9, 1), 4);
+        x.faint(1);
+        due("28 nothing left", x.shots(16, 0, 10, 0, 9, 0), 1);
+        x.faint(10);
         due("28 unseen as it is", x.shots(3, 0, 4, 1, 1, 0), 1);
         long bad = Long.MIN_VALUE + 2;
         due("28 c -1", x.shots(-1, 0, 1, 0, 1, 0), bad);
@@ -668,6 +699,7 @@ public final class PromiseTests {
         due("29 with a picture", x.plates(0, 1, 0), 34);
         x.burn(1, 0);
         due("29 with a burning", x.plates(0, 1, 0), 43);
+        due("29 one person", people("50.").plates(0, 3, 0), 50 - (2 + 1) - (3 + 1) - lotsOfOne());
         TakenShade thin = people("05.");
         thin.picture(0, 0, 3, 0);
         thin.burn(0, 0);
@@ -676,6 +708,17 @@ public final class PromiseTests {
         due("29 year -1", x.plates(0, -1, 0), BAD);
         due("29 person 2", x.plates(0, 0, 2), BAD);
         due("29 person -1", x.plates(0, 0, -1), BAD);
+    }
+
+    /** What is taken in the years 2 and 3 by seed 0: the sizes of the sixth and the eighth lot. */
+    private static int lotsOfOne() {
+        long seed = 0;
+        int sum = 0;
+        for (int lot = 1; lot <= 8; lot++) {
+            seed = (1103515245L * seed + 12345) % (1L << 32);
+            sum += lot == 6 || lot == 8 ? (int) (seed / 65536 % 9) + 1 : 0;
+        }
+        return sum;
     }
 
     // Promise 30
@@ -864,8 +907,48 @@ public final class PromiseTests {
         due("37 the same again", x.digest(), before);
         x.lose(0);
         due("37 findings aside", x.digest(), before);
+        digestOfAll();
         x.seen(0, 0, 3);
         check.holds("37 what is seen changes it", x.digest() != before);
+    }
+
+    /** Each part by its own call, in the order that the document tells. */
+    private static void digestOfAll() {
+        TakenShade x = people("55b;25a;12.");
+        x.picture(0, 0, 9, 0);
+        x.picture(1, 1, 7, 1);
+        x.picture(7, 0, 8, 1);
+        x.picture(8, 2, 5, 2);
+        x.burn(5, 1);
+        x.want(0, 1);
+        x.want(1, 0);
+        x.seen(3, 0, 46);
+        long h = 17;
+        for (int what = 0; what <= 7; what++) {
+            h = 31 * h + x.count(what);
+        }
+        h = 31 * h + x.fault();
+        for (int p = 0; p < 3; p++) {
+            long[] parts = {x.person(p, 0), x.person(p, 1), x.solid(5, p), x.solid(29, p), x.whole(9, p, 50, NONE, 0),
+                x.whole(9, p, 50, NONE, 1), x.spy(9, p, 3), x.shots(5, 9, 4, p, 4, 0), x.shots(5, 9, 4, p, 4, 1),
+                x.plates(7, 20, p)};
+            for (long part : parts) {
+                h = 31 * h + part;
+            }
+        }
+        for (int i = 0; i < 4; i++) {
+            h = mix(h, new int[] {x.took(i, 0), x.took(i, 1), x.sizes(i)});
+        }
+        for (int year : new int[] {0, 5, 29}) {
+            h = mix(h, new int[] {x.behind(year, 0), x.behind(year, 1), x.behind(year, 2), x.drawer(year, 0),
+                x.drawer(year, 1), x.drawer(year, 2), x.drawer(year, 3), x.feast(year, 2), x.swap(year, 0),
+                x.swap(year, 1), x.swap(year, 2)});
+        }
+        h = mix(h, new int[] {x.unseen(0), x.unseen(1), x.never(), x.town(99, 55, 2), x.toll(99, 2)});
+        due("37 of all", x.digest(), h);
+        due("37 somebody is unseen", x.unseen(0), 8);
+        due("37 somebody can be whole", x.whole(9, 0, 50, NONE, 1), 13 + 12);
+        due("37 a picture may be never taken", x.never(), 2);
     }
 
     private static long mix(long start, int[] values) {

@@ -11,6 +11,14 @@ final class Check {
         }
     }
 
+    void isNot(String call, long got, long unwanted) {
+        checked++;
+        if (got == unwanted) {
+            wrong++;
+            System.out.println(call + " answered " + got + ", which is not due");
+        }
+    }
+
     void holds(String what, boolean so) {
         due(what, so ? 1 : 0, 1);
     }
@@ -29,9 +37,13 @@ final class Check {
     /** A new object with people told. */
     static TakenShade people(String text) {
         TakenShade x = new TakenShade();
+        typeAll(x, text);
+        return x;
+    }
+
+    static void typeAll(TakenShade x, String text) {
         for (int i = 0; i < text.length(); i++) {
             x.type(text.charAt(i));
         }
-        return x;
     }
 }

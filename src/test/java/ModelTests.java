@@ -63,7 +63,8 @@ public final class ModelTests {
         int persons = Math.min(8, model.count(0) + random.nextInt(2));
         int many = random.nextInt(13);
         for (int i = 0; i < many; i++) {
-            compare("picture", random.nextInt(years), random.nextInt(persons), random.nextInt(9) + 1, random.nextInt(4));
+            compare("picture", random.nextInt(years), random.nextInt(persons), random.nextInt(9) + 1,
+                    random.nextInt(4));
         }
         for (int i = random.nextInt(8); i > 0; i--) {
             compare("burn", random.nextInt(Math.min(30, years + 3)), random.nextInt(Math.max(1, many)));

@@ -27,7 +27,9 @@ public final class PictureBoundaryTests {
         picturesBeforeBurnings();
         burningOfWhatWasNotTaken();
         burntTwice();
+        picturesBehindAllBurnings();
         givesBackWhatItTook();
+        givesBackToEveryTwin();
         lessSolidThanFaint();
         faintFrom0To99();
         wantsFromNoneTo7();
@@ -324,6 +326,20 @@ public final class PictureBoundaryTests {
         due("13 all is as before", x.behind(29, 2), 90);
     }
 
+    // Pictures of years behind the last of twelve burnings are taken as any others.
+    private static void picturesBehindAllBurnings() {
+        TakenShade x = people("99b;50.");
+        for (int i = 0; i < 12; i++) {
+            x.picture(i < 6 ? 0 : 2, 0, 2, 0);
+            x.burn(1, i);
+        }
+        due("12 six are taken", x.solid(0, 0), 87);
+        due("12 six are burnt", x.solid(1, 0), 99);
+        due("12 six more are taken", x.solid(2, 0), 87);
+        due("12 of the twin too", x.solid(2, 1), 44);
+        due("13 these are there", x.behind(2, 1), 4095 - 63);
+    }
+
     // "gives back what it TOOK, to each": not its SIZE, and to nobody else.
     private static void givesBackWhatItTook() {
         TakenShade x = people("05b;03a;09.");
@@ -335,6 +351,31 @@ public final class PictureBoundaryTests {
         due("12 three, not four", x.solid(1, 1), 3);
         due("12 another", x.solid(1, 2), 9);
         due("14 nothing is held", x.drawer(1, 0), 0);
+    }
+
+    // "to each": each of the persons 0 to 7 with each of the others as its twin, all that are neither aside.
+    private static void givesBackToEveryTwin() {
+        for (int person = 0; person < 8; person++) {
+            for (int twin = 0; twin < 8; twin++) {
+                if (twin != person) {
+                    givesBackToTwin(person, twin);
+                }
+            }
+        }
+    }
+
+    private static void givesBackToTwin(int person, int twin) {
+        TakenShade x = new TakenShade();
+        for (int p = 0; p < 8; p++) {
+            Check.typeAll(x, (p > 0 ? ";" : "") + (50 + p) + (p == person ? (char) ('a' + twin) : '.'));
+        }
+        x.picture(3, person, 9, 0);
+        x.burn(4, 0);
+        for (int p = 0; p < 8; p++) {
+            String call = "12 person " + p + ", a picture of " + person + ", its twin is " + twin;
+            due(call, x.solid(3, p), 50 + p - (p == person ? 9 : p == twin ? 4 : 0));
+            due(call + ": burnt", x.solid(4, p), 50 + p);
+        }
     }
 
     // "One is UNSEEN who is less SOLID than FAINT (0 to 99; 10 at first)."

@@ -31,9 +31,12 @@ public final class PlanBoundaryTests {
         spyRefuses();
         swapRests();
         swapLeastAndLastPair();
+        swapOfAnyDrawersAndPersons();
         swapNeedsMoreJoyOfBoth();
         swapsNoneAndSix();
         swapsWithSomeLeftOver();
+        swapsOfFourOwners();
+        swapsByEveryWant();
         swapOnlyWhatIsThere();
         swapRefuses();
         check.end();
@@ -381,6 +384,37 @@ public final class PlanBoundaryTests {
         due("20 then the least other", both.swap(29, 1), 1);
     }
 
+    // "WANT of a DRAWER's owner: a PERSON (0 to 7; NONE at first)": any two drawers, any two persons.
+    private static void swapOfAnyDrawersAndPersons() {
+        for (int drawer = 0; drawer < 4; drawer++) {
+            for (int other = 0; other < 4; other++) {
+                for (int person = 0; person < 8; person++) {
+                    for (int another = 0; another < 8; another++) {
+                        swapsOf(drawer, other, person, another);
+                    }
+                }
+            }
+        }
+    }
+
+    /** Three pictures of a person in a drawer, and three of another in another, each wanted by the other's owner. */
+    private static void swapsOf(int drawer, int other, int person, int another) {
+        TakenShade x = people("99.;99.;99.;99.;99.;99.;99.;99.");
+        x.want(drawer, another);
+        x.want(other, person);
+        for (int i = 0; i < 3; i++) {
+            x.picture(0, person, 1, drawer);
+        }
+        for (int i = 0; i < 3; i++) {
+            x.picture(0, another, 1, other);
+        }
+        boolean isGain = drawer != other && person != another;
+        String call = "20 drawers " + drawer + ", " + other + ", persons " + person + ", " + another;
+        due(call + ": the one", x.swap(0, 0), isGain ? 0 : NONE);
+        due(call + ": the other", x.swap(0, 1), isGain ? 3 : NONE);
+        due(call + ": how many", x.swap(0, 2), isGain ? 3 : 0);
+    }
+
     // "gives both owners more JOY": not as much, not to one alone.
     private static void swapNeedsMoreJoyOfBoth() {
         TakenShade x = people("99.;99.");
@@ -437,6 +471,51 @@ public final class PlanBoundaryTests {
                 }
                 due("20 of " + many + " and " + other, x.swap(0, 2), Math.min(many, other));
             }
+        }
+    }
+
+    // "one behind another": among four owners, where a picture that was changed is not changed again.
+    private static void swapsOfFourOwners() {
+        TakenShade x = people("99.;99.;99.;99.");
+        int[] wants = {3, 2, 3, 2};
+        for (int drawer = 0; drawer < 4; drawer++) {
+            x.want(drawer, wants[drawer]);
+        }
+        int[][] pictures = {{2, 0}, {3, 1}, {2, 2}, {3, 3}, {2, 0}, {3, 1}, {2, 2}, {0, 0}, {1, 1}, {3, 0}, {2, 3}};
+        for (int[] picture : pictures) {
+            x.picture(0, picture[0], 1, picture[1]);
+        }
+        due("20 the least", x.swap(0, 0), 0);
+        due("20 the other", x.swap(0, 1), 1);
+        due("20 four of person 2, three of person 3", x.swap(0, 2), 3);
+        x.picture(0, 3, 1, 3);
+        due("20 four of each", x.swap(0, 2), 4);
+    }
+
+    // "till it RESTS": a picture that was changed is where it is wanted, so of two kinds that are wanted for each other
+    // as many are changed as the fewer are. All that four owners may want of four persons.
+    private static void swapsByEveryWant() {
+        int[] persons = {1, 2, 3, 0, 3, 2, 1, 1, 2, 0, 0, 3};
+        int[] drawers = {0, 1, 2, 3, 1, 0, 3, 2, 2, 1, 0, 0};
+        for (int code = 0; code < 256; code++) {
+            TakenShade x = people("99.;99.;99.;99.");
+            for (int i = 0; i < 12; i++) {
+                x.picture(0, persons[i], 1, drawers[i]);
+            }
+            int[][] many = new int[4][4];
+            for (int drawer = 0; drawer < 4; drawer++) {
+                x.want(drawer, code >> 2 * drawer & 3);
+            }
+            for (int i = 0; i < 12; i++) {
+                many[code >> 2 * drawers[i] & 3][persons[i]]++;
+            }
+            int due = 0;
+            for (int one = 0; one < 4; one++) {
+                for (int other = one + 1; other < 4; other++) {
+                    due += Math.min(many[one][other], many[other][one]);
+                }
+            }
+            due("20 wants " + code, x.swap(0, 2), due);
         }
     }
 

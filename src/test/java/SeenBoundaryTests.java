@@ -22,9 +22,11 @@ public final class SeenBoundaryTests {
         neverWithoutPictures();
         neverWithNothingSeen();
         neverFirstAndLast();
+        neverAgainstTheYears();
         neverWhereItTookNothing();
         neverOfNobody();
         sizesFrom1To9();
+        sizesOfEachPicture();
         sizesCut();
         sizesOfNobody();
         sizesRefuse();
@@ -47,6 +49,8 @@ public final class SeenBoundaryTests {
         platesOfAllYears();
         platesBehindPictures();
         platesTakeAllThatIsLeft();
+        platesTakeFromTheTwin();
+        platesWithPicturesOfAllYears();
         platesRefuse();
         check.end();
     }
@@ -217,6 +221,23 @@ public final class SeenBoundaryTests {
         }
     }
 
+    // The bits are the numbers as told, though the years go the other way.
+    private static void neverAgainstTheYears() {
+        TakenShade x = people("99.");
+        for (int i = 0; i < 12; i++) {
+            x.picture(11 - i, 0, 1, 0);
+        }
+        for (int year = 0; year < 12; year++) {
+            x.forget();
+            x.seen(year, 0, 99 - year);
+            due("24 one of those to year " + year, x.never(), 4095 - ((1 << 11 - year) - 1));
+            if (year > 0) {
+                x.seen(year - 1, 0, 99 - year);
+                due("24 the one of year " + year, x.never(), 1 << 11 - year);
+            }
+        }
+    }
+
     // "had it alone never been taken": where it took nothing all comes out as it does with it.
     private static void neverWhereItTookNothing() {
         TakenShade x = people("05.");
@@ -261,6 +282,25 @@ public final class SeenBoundaryTests {
             none.forget();
             none.seen(0, 0, 40);
             due("25 not by 10", none.sizes(0), 0);
+        }
+    }
+
+    // "SIZES that a PICTURE may have had": of the one asked for, from picture 0 to picture 11.
+    private static void sizesOfEachPicture() {
+        for (int picture = 0; picture < 12; picture++) {
+            TakenShade x = people("99.;50.");
+            for (int i = 0; i < 12; i++) {
+                x.picture(i % 2 == 0 ? i : 29 - i, i == picture ? 1 : 0, 3, 0);
+            }
+            x.seen(29, 1, 44);
+            for (int i = 0; i < 12; i++) {
+                due("25 picture " + i + " where " + picture + " took six", x.sizes(i), i == picture ? 1 << 5 : 0);
+            }
+            x.forget();
+            x.seen(29, 1, 47);
+            for (int i = 0; i < 12; i++) {
+                due("25 picture " + i + " where " + picture + " took three", x.sizes(i), i == picture ? 1 << 2 : 511);
+            }
         }
     }
 
@@ -586,6 +626,30 @@ public final class SeenBoundaryTests {
         due("29 nothing is left", x.plates(0, 29, 0), 0);
         due("29 seed 0 takes 3", people("04.").plates(0, 0, 0), 1);
         due("29 seed 0 takes 3", people("02.").plates(0, 0, 0), 0);
+    }
+
+    // "a PICTURE of that PERSON", so of its twin half is taken, whoever it is: seed -1 takes 9 of person 1, seed 1 takes
+    // 7 of person 6.
+    private static void platesTakeFromTheTwin() {
+        TakenShade x = people("50b;50d;50.;50.;50.;50.;50f;50.");
+        for (int p = 0; p < 8; p++) {
+            due("29 9 of 1, 4 of 3, person " + p, x.plates(-1, 0, p), 50 - (p == 1 ? 9 : p == 3 ? 4 : 0));
+            due("29 7 of 6, 3 of 5, person " + p, x.plates(1, 0, p), 50 - (p == 6 ? 7 : p == 5 ? 3 : 0));
+        }
+    }
+
+    // "behind its PICTURES": each year's own are taken and burnt, those of later years are not yet.
+    private static void platesWithPicturesOfAllYears() {
+        TakenShade x = people("99.");
+        x.picture(2, 0, 7, 0);
+        x.picture(0, 0, 5, 0);
+        x.picture(1, 0, 6, 0);
+        due("29 seed 0 takes 3", x.plates(0, 0, 0), 99 - 5 - 3);
+        due("29 seed 0 takes 3, 4", x.plates(0, 1, 0), 99 - 5 - 3 - 6 - 4);
+        x.burn(1, 1);
+        x.burn(2, 0);
+        due("29 not burnt yet", x.plates(0, 0, 0), 99 - 5 - 3);
+        due("29 burnt in year 1", x.plates(0, 1, 0), 99 - 3 - 6 - 4);
     }
 
     // Promise 29: "BAD."

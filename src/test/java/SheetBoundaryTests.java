@@ -28,6 +28,7 @@ public final class SheetBoundaryTests {
         copyNone();
         copyAsTheyWere();
         copyBetweenSheets();
+        copyBetweenLengths();
         copyRefuses();
         writeAsManyAsThereAre();
         writeByForms();
@@ -36,6 +37,7 @@ public final class SheetBoundaryTests {
         countRefuses();
         digestThatWraps();
         digestOfEachPart();
+        digestOfSwaps();
         check.end();
     }
 
@@ -284,6 +286,37 @@ public final class SheetBoundaryTests {
         }
     }
 
+    // "INDEX: ... not so many", in the one or in the other: a short sheet and a long one, each way.
+    private static void copyBetweenLengths() {
+        for (int from = 0; from < 2; from++) {
+            for (int i = 0; i <= 7; i++) {
+                for (int j = 0; j <= 7; j++) {
+                    for (int n = 0; n <= 7; n++) {
+                        copyOne(from, i, j, n);
+                    }
+                }
+            }
+        }
+    }
+
+    private static void copyOne(int from, int i, int j, int n) {
+        int[] lengths = {2, 6};
+        TakenShade x = new TakenShade();
+        fill(x, 0, 1, lengths[0], 100);
+        fill(x, 1, 1, lengths[1], 200);
+        int to = 1 - from;
+        boolean fits = i + n <= lengths[from] && j + n <= lengths[to];
+        String call = "34 copy(" + from + ", " + i + ", " + to + ", " + j + ", " + n + ")";
+        due(call, x.copy(from, i, to, j, n), fits ? 1 : INDEX);
+        for (int k = 0; k < lengths[to]; k++) {
+            boolean came = fits && k >= j && k < j + n;
+            due(call + ": item " + k, x.get(to, 1, k), came ? 100 + 100 * from + i + k - j : 100 + 100 * to + k);
+        }
+        for (int k = 0; k < lengths[from]; k++) {
+            due(call + ": its own item " + k, x.get(from, 1, k), 100 + 100 * from + k);
+        }
+    }
+
     // "BAD: the SHEETS; NULL: s, t; STORE; INDEX: below 0, not so many."
     private static void copyRefuses() {
         TakenShade x = new TakenShade();
@@ -423,6 +456,28 @@ public final class SheetBoundaryTests {
         due("37 perhaps behind year 9", x.shots(5, 9, 4, 1, 4, 1), 65536);
         due("37 never by a lesser size", x.shots(5, 9, 4, 1, 3, 1), 1);
         due("37 surely behind year 10", x.shots(5, 10, 4, 1, 4, 1), 1);
+    }
+
+    // "of YEARS 0, 5, 29 ... swap() 0 to 2": in each of these years another pair and another number of swaps.
+    private static void digestOfSwaps() {
+        TakenShade x = Check.people("90.;90.");
+        int[][] pictures = {{0, 1, 1}, {0, 0, 0}, {5, 1, 1}, {5, 0, 0}, {29, 1, 1}, {29, 0, 0}, {29, 1, 1}, {29, 0, 0}};
+        for (int[] picture : pictures) {
+            x.picture(picture[0], picture[1], 1, picture[2]);
+        }
+        x.want(0, 1);
+        x.want(1, 0);
+        x.burn(5, 1);
+        x.burn(29, 0);
+        x.burn(29, 3);
+        int[][] due = {{0, 1, 1}, {0, 3, 1}, {2, 5, 2}};
+        int[] years = {0, 5, 29};
+        for (int i = 0; i < years.length; i++) {
+            for (int what = 0; what <= 2; what++) {
+                due("20 year " + years[i] + ", " + what, x.swap(years[i], what), due[i][what]);
+            }
+        }
+        due("37 swaps", x.digest(), reckon(x).longValue());
     }
 
     private static TakenShade manyYears() {
